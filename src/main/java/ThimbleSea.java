@@ -744,7 +744,7 @@ public final class ThimbleSea {
             return true;
         }
 
-        /** An E: what multiplies is emitted at once, what adds only before the next PART's end. */
+        /** An E: a * or / is emitted behind its second UNIT, a + or - only when its second PART has ended. */
         private boolean sum(int nested) {
             int adding = END;
             int multiplying = END;
@@ -1238,6 +1238,7 @@ public final class ThimbleSea {
                 drops[cell] -= gone;
                 lacking -= gone;
             }
+            // Fewer drops are lacking than there are cells with a rest, so no cell is taken twice.
             for (int i = 0; i < lacking; i++) {
                 int most = 0;
                 for (int cell = 1; cell < CELLS; cell++) {

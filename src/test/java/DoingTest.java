@@ -71,6 +71,8 @@ public final class DoingTest {
         CHECK.due("split(0, 2, 99, 99)", sea.split(0, 2, 99, 99), 7);
         CHECK.due("drops(2, -1)", sea.drops(2, -1), 12);
         CHECK.due("heir(1, 1) stays", sea.heir(1, 1), 3);
+        CHECK.due("split(2, 0, 1, 1)", sea.split(2, 0, 1, 1), 12);
+        CHECK.due("undo()", sea.undo(), true);
         CHECK.due("split(1, 0, 2, 3)", sea.split(1, 0, 2, 3), 4);
         CHECK.due("undo()", sea.undo(), true);
         CHECK.due("drops(1, 1)", sea.drops(1, 1), 6);
@@ -155,6 +157,7 @@ public final class DoingTest {
         CHECK.due("count(9)", sea.count(9), 0);
         CHECK.due("undo()", sea.undo(), false);
         CHECK.due("count(10) stays", sea.count(10), 1);
+        CHECK.due("heir(0, 3)", sea.heir(0, 3), 12);
         sea.run(1);
         CHECK.due("restore(0)", sea.restore(0), true);
         CHECK.due("count(4)", sea.count(4), 4);

@@ -17,6 +17,8 @@ public final class SeaTest {
         ranks();
         runs();
         counts();
+        oneDrop();
+        allRooms();
         CHECK.end();
     }
 
@@ -294,6 +296,46 @@ public final class SeaTest {
         CHECK.due("run(1)", sea.run(1), 201);
         CHECK.due("run(0)", sea.run(0), 201);
         CHECK.due("count(5)", sea.count(5), 201);
+    }
+
+    private static void oneDrop() {
+        ThimbleSea sea = Check.sea("water a 7 1; heir x 1 1 1 1; sends x a = 1; dry = if week < 1 then 0 else 1;");
+        sea.run(1);
+        CHECK.due("owns(0, false) of one drop", sea.owns(0, false), 1);
+        CHECK.due("owns(0, true) of one drop", sea.owns(0, true), 1);
+        CHECK.due("heir(0, 4) of one drop", sea.heir(0, 4), 1);
+        CHECK.due("count(12) of one drop", sea.count(12), 7000);
+        CHECK.due("crossed(1, 1, 0)", sea.crossed(1, 1, 0), 0);
+        CHECK.due("asked(1, 1)", sea.asked(1, 1), 1);
+        CHECK.due("gives(1, 0)", sea.gives(1, 0), 1);
+        CHECK.due("spoon(1)", sea.spoon(1), 7);
+        CHECK.due("salt()", sea.salt(), 0);
+        CHECK.due("count(5)", sea.count(5), 0);
+        CHECK.due("run(1)", sea.run(1), 2);
+        CHECK.due("one comes and one dries up", sea.count(5), 0);
+    }
+
+    /** Eight HEIRS, five WATERS, the last of each as good as the first. */
+    private static void allRooms() {
+        StringBuilder text = new StringBuilder("basin 9999; dry = 1;");
+        for (int w = 0; w < 5; w++) {
+            text.append("water w").append((char) ('a' + w)).append(' ').append(w).append(" 1;");
+        }
+        for (int h = 0; h < 8; h++) {
+            text.append("heir h").append((char) ('a' + h)).append(" 1 1 1 1;");
+            text.append("sends h").append((char) ('a' + h)).append(" we = ").append(h).append(';');
+        }
+        ThimbleSea sea = Check.sea(text.toString());
+        sea.run(1);
+        // 28 come; the one that dries up is of the greatest rest, the last HEIR's
+        CHECK.due("drops(7, 4)", sea.drops(7, 4), 6);
+        CHECK.due("drops(7, -1)", sea.drops(7, -1), 6);
+        CHECK.due("drops(-1, 4)", sea.drops(-1, 4), 27);
+        CHECK.due("drops(-1, -1)", sea.drops(-1, -1), 27);
+        CHECK.due("heir(7, 5): alike ones by numbers", sea.heir(7, 5), 1);
+        CHECK.due("ranked(7)", sea.ranked(7), 0);
+        CHECK.due("heir(7, 3)", sea.heir(7, 3), 7);
+        CHECK.due("salt()", sea.salt(), 28 * 4);
     }
 
     private static void counts() {

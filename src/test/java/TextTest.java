@@ -10,6 +10,7 @@ public final class TextTest {
         faultsOfMeaning();
         aFaultChangesNothing();
         aTextReplacesAll();
+        textsInTurn();
         CHECK.end();
     }
 
@@ -150,6 +151,12 @@ public final class TextTest {
         fault("dry = " + times(5, "if 1 < 2 then 3 else ") + "1;", 2, 6 + 4 * 21);
         fine("dry = " + times(6, "(") + "1" + times(6, ")") + ";");
         fine("dry = " + times(6, "(") + "1" + times(6, ")") + "*" + times(6, "(") + "1" + times(6, ")") + ";");
+        String six = times(6, "(") + "1" + times(6, ")");
+        fine("dry = if " + six + "<" + six + " then " + six + " else " + six + ";");
+        fault("dry = if (" + six + ")", 2, 15);
+        fault("dry = if 1 < (" + six + ")", 2, 19);
+        fault("dry = if 1 < 2 then (" + six + ")", 2, 26);
+        fault("dry = if 1 < 2 then 3 else (" + six + ")", 2, 33);
         fault("dry = " + times(7, "(") + "1" + times(7, ")") + ";", 2, 12);
         fault("dry = 1" + times(7, "("), 1, 7);
         fault("dry = " + times(8, "("), 2, 12);
@@ -227,6 +234,44 @@ public final class TextTest {
         CHECK.due("count(4)", sea.count(4), 0);
         CHECK.due("restore(1)", sea.restore(1), true);
         CHECK.due("count(4)", sea.count(4), 2);
+    }
+
+    /** Nothing of an earlier text comes back with a later one. */
+    private static void textsInTurn() {
+        String full = "water a 2 1; water b 1 1; heir x 3 1 1 9; heir y 4 1 1 9; sends x a = 5; sends y b = 6; dry = 1; basin 50;"
+            + "seed 9; claim c = 1 of 2 x + 1 of 1 y; claim d = 1 of 1 x;";
+        ThimbleSea sea = Check.sea(full);
+        Check.feed(sea, full);
+        CHECK.due("read() of the same again", sea.read(), 0);
+        sea.run(3);
+        Check.feed(sea, "basin 60; basin 0;");
+        CHECK.due("read() of a fault", sea.read(), 5);
+        CHECK.due("tells(1) stays", sea.tells(1), 6);
+        CHECK.due("claim(0, false) stays", sea.claim(0, false) * 2, sea.claim(0, true) * (sea.heir(0, 0) + 2 * sea.heir(1, 0)));
+        Check.feed(sea, "");
+        CHECK.due("read() of nothing", sea.read(), 0);
+        for (int what = 0; what < 13; what++) {
+            CHECK.due("count(" + what + ") of nothing", sea.count(what), what == 6 ? 999 : 0);
+        }
+        CHECK.due("salt()", sea.salt(), 0);
+        CHECK.due("drops(-1, -1)", sea.drops(-1, -1), 0);
+        Check.feed(sea, "heir x 5 1 1 1; water a 3 1; sends x a = lot / 11; claim c = 2 of 1 x;");
+        CHECK.due("read() of a small one", sea.read(), 0);
+        CHECK.due("drops(0, 0)", sea.drops(0, 0), 0);
+        CHECK.due("heir(0, 2)", sea.heir(0, 2), 5);
+        CHECK.due("heir(0, 3)", sea.heir(0, 3), 0);
+        int sent = sea.tells(0);
+        CHECK.due("tells(0) of seed 0", sent, Check.sea("heir x 5 1 1 1; water a 3 1; sends x a = lot / 11;").tells(0));
+        sea.run(1);
+        CHECK.due("count(5), no dry", sea.count(5), sent);
+        CHECK.due("claim(0, false)", sea.claim(0, false), 2 * sent);
+        CHECK.due("claim(1, false)", sea.claim(1, false), -1);
+        String longLaw = "water a 1 1; heir x 1 1 1 1; sends x a = 7" + times(150, "+1") + " - 100;";
+        for (int i = 0; i < 12; i++) {
+            Check.feed(sea, longLaw);
+            CHECK.due("read() of a long law, " + i, sea.read(), 0);
+            CHECK.due("tells(0) of a long law, " + i, sea.tells(0), 57);
+        }
     }
 
     private static void aTextReplacesAll() {

@@ -66,6 +66,11 @@ public final class WouldBeTest {
             CHECK.due("crossed(" + w[0] + ", " + w[1] + ", " + w[2] + ")", sea.crossed(w[0], w[1], w[2]), -1);
         }
         CHECK.due("crossed of nothing", new ThimbleSea().crossed(1, 99, 0), -2);
+        ThimbleSea late = Check.sea("water a 3 1; heir x 2 1 1 1; sends x a = if week < 199 then 0 else 1;");
+        CHECK.due("crossed behind 200 weeks", late.crossed(1, 1, 0), 200);
+        CHECK.due("crossed by one drop", late.crossed(1, 1, 1), 0);
+        late.run(199);
+        CHECK.due("crossed behind one", late.crossed(1, 1, 0), 1);
         sea.run(3);
         CHECK.due("crossed(1, 2, 0) now", sea.crossed(1, 2, 0), 0);
         CHECK.due("nothing happens", sea.count(4), 3);
@@ -129,6 +134,9 @@ public final class WouldBeTest {
         CHECK.due("without(0, 1, -1) of more", sea.without(0, 1, -1), -46);
         sea.run(1);
         CHECK.due("without(0, 1, -1) from now", sea.without(0, 1, -1), 3);
+        CHECK.due("enough(100000)", sea.enough(100000), -2);
+        CHECK.due("without(0, 1, -1) again", sea.without(0, 1, -1), 3);
+        CHECK.due("without(0, 1, 0) again", sea.without(0, 1, 0), -3);
     }
 
     private static void asking() {
@@ -207,6 +215,10 @@ public final class WouldBeTest {
         // 5 drops, 12 of SALT: 0 3 2, 1 1 3: b and c in both
         thimble(three, 5, 12, 5, 2, 6, 0, 3, 2);
         thimble(three, 5, 12, 4, 0, 0, -2, -2, -2);
+        CHECK.due("firstRow first of all", three.firstRow(4, 5, 4, 0), 3);
+        CHECK.due("surely first of all", three.surely(3, 8, 3), 6);
+        CHECK.due("thimble of the salt before", three.thimble(3, 7, 3), 2);
+        CHECK.due("thimble of the colour before", three.thimble(3, 7, 2), 0);
         CHECK.due("firstRow(4, 8, 4, -1)", three.firstRow(4, 8, 4, -1), -1);
         CHECK.due("firstRow(61, 8, 4, 0)", three.firstRow(61, 8, 4, 0), -1);
         CHECK.due("firstRow(4, -8, 4, 0)", three.firstRow(4, -8, 4, 0), -1);
