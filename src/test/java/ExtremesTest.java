@@ -1,3 +1,5 @@
+import java.util.function.Supplier;
+
 /** Every method with numbers from the edges of int, in several states: none may throw, wrong ones answer as told. */
 public final class ExtremesTest {
     private static final Check CHECK = new Check("ExtremesTest");
@@ -15,18 +17,24 @@ public final class ExtremesTest {
         String[] texts = {"", "water w 0 0;", "heir h 1 0 0 0;", "heir h 1 0 0 0; water w 1 1; sends h w = level / week; basin 1; claim c = 99 of 1 h;",
             full.toString()};
         for (String text : texts) {
-            all(Check.sea(text));
-            ThimbleSea later = Check.sea(text);
-            later.run(3);
-            later.tell(99, 5);
-            later.tell(0, 0);
-            all(later);
+            all(() -> Check.sea(text));
+            all(() -> later(text));
         }
         CHECK.end();
     }
 
-    private static void all(ThimbleSea sea) {
+    private static ThimbleSea later(String text) {
+        ThimbleSea sea = Check.sea(text);
+        sea.run(3);
+        sea.tell(99, 5);
+        sea.tell(0, 0);
+        return sea;
+    }
+
+    /** Each object is used for 512 calls at most. */
+    private static void all(Supplier<ThimbleSea> making) {
         for (int a : EDGES) {
+            ThimbleSea sea = making.get();
             one(sea, a);
             for (int b : EDGES) {
                 two(sea, a, b);
@@ -34,6 +42,7 @@ public final class ExtremesTest {
         }
         for (int a : new int[] {Integer.MIN_VALUE, -1, 0, 1, 60, Integer.MAX_VALUE}) {
             for (int b : EDGES) {
+                ThimbleSea sea = making.get();
                 for (int c : EDGES) {
                     three(sea, a, b, c);
                 }

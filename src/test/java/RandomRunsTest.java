@@ -1,10 +1,16 @@
 import java.util.Random;
 
-/** Random texts and calls, the same every time: the program's answers beside the Oracle's. */
+/**
+ * Random texts and calls, the same every time: the program's answers beside the Oracle's. Two arguments tell other runs:
+ * the first one's number, and the one behind the last.
+ */
 public final class RandomRunsTest {
-    private static final int RUNS = 250;
-    private static final int TEXTS = 6000;
-    private static final int CALLS = 150;
+    private static final int RUNS = 700;
+    private static final int TEXTS = 2000;
+    /** An object is used for 512 calls at most; no step takes more than 60, and a text not more than 120. */
+    private static final int CALLS = 512;
+    private static final int STEP_CALLS = 60;
+    private static final int TEXT_CALLS = 120;
     private static final Check CHECK = new Check("RandomRunsTest");
     private static final String[] VARS = {"week", "level", "salt", "share", "sent", "lot"};
     private static final String[] PIECES = {"water", "heir", "sends", "dry", "basin", "claim", "seed", "of", "if", "then",
@@ -15,6 +21,7 @@ public final class RandomRunsTest {
     private final ThimbleSea sea = new ThimbleSea();
     private final Oracle oracle = new Oracle();
     private final int run;
+    private int calls = 0;
 
     private RandomRunsTest(int run) {
         this.run = run;
@@ -22,12 +29,16 @@ public final class RandomRunsTest {
     }
 
     public static void main(String[] args) {
-        for (int run = 0; run < RUNS; run++) {
+        int from = args.length > 1 ? Integer.parseInt(args[0]) : 0;
+        int behind = args.length > 1 ? Integer.parseInt(args[1]) : RUNS;
+        for (int run = from; run < behind; run++) {
             new RandomRunsTest(run).play();
         }
-        RandomRunsTest texts = new RandomRunsTest(-1);
-        for (int i = 0; i < TEXTS; i++) {
-            texts.text(2);
+        for (int run = from + 1; run <= from + TEXTS; run++) {
+            RandomRunsTest texts = new RandomRunsTest(-run);
+            while (texts.hasCallsFor(TEXT_CALLS)) {
+                texts.text(2);
+            }
         }
         CHECK.end();
     }
@@ -36,12 +47,16 @@ public final class RandomRunsTest {
         for (int i = random.nextInt(8) == 0 ? 1 : 0; i < 2; i++) {
             text(1);
         }
-        for (int i = 0; i < CALLS; i++) {
-            if (random.nextInt(40) == 0) {
+        while (hasCallsFor(STEP_CALLS)) {
+            if (random.nextInt(40) == 0 && hasCallsFor(TEXT_CALLS + STEP_CALLS)) {
                 text(1);
             }
             one();
         }
+    }
+
+    private boolean hasCallsFor(int more) {
+        return calls + more <= CALLS;
     }
 
     private int below(int n) {
@@ -189,10 +204,12 @@ public final class RandomRunsTest {
     // ---- calls ----------------------------------------------------------------------------------
 
     private void due(String call, long got, long want) {
+        calls++;
         CHECK.due("run " + run + ": " + call, got, want);
     }
 
     private void due(String call, boolean got, boolean want) {
+        calls++;
         CHECK.due("run " + run + ": " + call, got, want);
     }
 
